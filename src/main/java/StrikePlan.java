@@ -352,6 +352,8 @@ public final class StrikePlan {
         return drawSeed / 65536;
     }
 
+    // ---- strength
+
     private static int percentAt(int table, int ripe) {
         // All tables begin with 0; a ripeness below it would endanger the divisor.
         if (ripe <= 0) {
@@ -514,14 +516,17 @@ public final class StrikePlan {
 
         /** Shares q among the stack that floor i is in. */
         private void shareAmong(int i, int q) {
-            if (isGrounded(i)) {
+            int low = lowestOf(i);
+            if (low == 0 && isPropped(0)) {
+                // The ground has it.
                 return;
             }
-            int low = lowestOf(i);
             int high = highestOf(i);
+            int rule = bounds[RULE];
             long all = 0;
             for (int k = low; k <= high; k++) {
-                part[k] = partOf(k);
+                int age = ageOf(k);
+                part[k] = rule == 1 ? strengthOf(k) : rule == 2 ? age : Math.min(age, 1);
                 all += part[k];
             }
             if (all <= 0) {
@@ -546,14 +551,6 @@ public final class StrikePlan {
                     load[k] += one;
                     left -= one;
                 }
-            }
-        }
-
-        private int partOf(int i) {
-            switch (bounds[RULE]) {
-                case 0: return ageOf(i) > 0 ? 1 : 0;
-                case 1: return strengthOf(i);
-                default: return ageOf(i);
             }
         }
     }
