@@ -23,7 +23,7 @@ public final class BookAndImagesTest {
     }
 
     private static void write() {
-        StrikePlan x = TowerTest.lightPair(0);
+        StrikePlan x = Towers.lightPair(0);
         int deeds = x.told(13);
         DUE.is("write(0, 5)", x.write(0, 5), 1);
         DUE.is("write(1, 5)", x.write(1, 5), 2);
@@ -36,7 +36,7 @@ public final class BookAndImagesTest {
     }
 
     private static void writeRefused() {
-        StrikePlan x = TowerTest.lightPair(0);
+        StrikePlan x = Towers.lightPair(0);
         for (int i : NO_FLOORS) {
             DUE.is("write(" + i + ", 5)", x.write(i, 5), UNKNOWN);
         }
@@ -52,7 +52,7 @@ public final class BookAndImagesTest {
 
     /** The number of the entry, not of its floor; what is wrong now may be right later. */
     private static void wrongIsAnEntry() {
-        StrikePlan x = TowerTest.lightPair(0);
+        StrikePlan x = Towers.lightPair(0);
         x.write(1, 5);
         x.write(1, 5);
         x.write(0, 8);
@@ -72,7 +72,7 @@ public final class BookAndImagesTest {
     }
 
     private static void tear() {
-        StrikePlan x = TowerTest.lightPair(0);
+        StrikePlan x = Towers.lightPair(0);
         DUE.is("tear() of nothing", x.tear(), 0);
         x.write(0, 1);
         x.write(0, 2);
@@ -102,7 +102,7 @@ public final class BookAndImagesTest {
     }
 
     private static void keepAndGoBack() {
-        StrikePlan x = TowerTest.lightPair(2);
+        StrikePlan x = Towers.lightPair(2);
         x.slow(1, 3);
         x.seed(41);
         DUE.is("keep(0)", x.keep(0), 1);
@@ -124,7 +124,7 @@ public final class BookAndImagesTest {
     }
 
     private static void imagesAreCopies() {
-        StrikePlan x = TowerTest.lightPair(0);
+        StrikePlan x = Towers.lightPair(0);
         x.keep(0);
         String kept = Due.stateOf(x);
         x.pour();
@@ -143,7 +143,7 @@ public final class BookAndImagesTest {
     }
 
     private static void imagesEndUndoing() {
-        StrikePlan x = TowerTest.lightPair(0);
+        StrikePlan x = Towers.lightPair(0);
         DUE.holds("something can be undone", x.told(13) > 0);
         x.keep(1);
         DUE.is("nothing after keep", x.told(13), 0);
@@ -159,7 +159,7 @@ public final class BookAndImagesTest {
     }
 
     private static void imagesLeaveTheBook() {
-        StrikePlan x = TowerTest.lightPair(0);
+        StrikePlan x = Towers.lightPair(0);
         x.write(0, 5);
         x.keep(0);
         x.write(0, 6);
@@ -169,7 +169,7 @@ public final class BookAndImagesTest {
     }
 
     private static void imagesRefused() {
-        StrikePlan x = TowerTest.lightPair(0);
+        StrikePlan x = Towers.lightPair(0);
         int deeds = x.told(13);
         int[] strange = {-1, 2, Integer.MIN_VALUE, Integer.MAX_VALUE};
         for (int i : strange) {

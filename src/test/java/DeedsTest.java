@@ -21,7 +21,6 @@ public final class DeedsTest {
         clear();
         driftByDraws();
         driftByEachDeed();
-        driftIsUndoneByTimes();
         undo();
         undoKeepsTwenty();
         undoLeavesSeedAndBook();
@@ -44,7 +43,7 @@ public final class DeedsTest {
     }
 
     private static void pour() {
-        StrikePlan x = TowerTest.lightPair(0);
+        StrikePlan x = Towers.lightPair(0);
         DUE.is("pour()", x.pour(), 2);
         DUE.is("two and the one left over", x.floor(0, 3), 1008);
         DUE.is("two", x.floor(1, 3), 1007);
@@ -93,7 +92,7 @@ public final class DeedsTest {
     }
 
     private static void strike() {
-        StrikePlan x = TowerTest.lightPair(0);
+        StrikePlan x = Towers.lightPair(0);
         x.pour();
         x.days(10);
         // The props under 1 bear what two floors weigh, less the 7 of floor 1: 3.
@@ -134,7 +133,7 @@ public final class DeedsTest {
     }
 
     private static void strikeRefused() {
-        StrikePlan x = TowerTest.lightPair(0);
+        StrikePlan x = Towers.lightPair(0);
         String ahead = Due.stateOf(x);
         for (int i : NO_FLOORS) {
             DUE.is("strike(" + i + ")", x.strike(i), UNKNOWN);
@@ -151,7 +150,7 @@ public final class DeedsTest {
     }
 
     private static void back() {
-        StrikePlan x = TowerTest.lightPair(0);
+        StrikePlan x = Towers.lightPair(0);
         for (int i : NO_FLOORS) {
             DUE.is("back(" + i + ")", x.back(i), UNKNOWN);
         }
@@ -177,14 +176,14 @@ public final class DeedsTest {
     }
 
     private static void backInAnUnsafeTower() {
-        StrikePlan x = TowerTest.lightPair(0);
+        StrikePlan x = Towers.lightPair(0);
         x.bound(1, 1);
         DUE.is("not safe", x.told(8), 0);
         DUE.is("put back all the same", x.back(0), 0);
     }
 
     private static void slow() {
-        StrikePlan x = TowerTest.lightPair(0);
+        StrikePlan x = Towers.lightPair(0);
         DUE.is("slow(1, 9)", x.slow(1, 9), 0);
         DUE.is("slow(1, 3)", x.slow(1, 3), 9);
         // 10 days, 7 tenths of them.
@@ -247,7 +246,7 @@ public final class DeedsTest {
     }
 
     private static void clear() {
-        StrikePlan x = TowerTest.lightPair(2);
+        StrikePlan x = Towers.lightPair(2);
         x.slow(0, 4);
         DUE.is("clear()", x.clear(), 2);
         int[] want = {0, 0, 5, 60, 1, 2, 0, 0, 1, 0, 0};
@@ -287,24 +286,8 @@ public final class DeedsTest {
         DUE.is("DAY", x.told(0), 114);
     }
 
-    /** A seed whose next three draws are these, found by trying. */
-    private static int seedFor(int deed, int i, int gone) {
-        for (int seed = 0;; seed++) {
-            long first = next(seed);
-            long second = next(first);
-            long third = next(second);
-            if (first / 65536 % 5 == deed && second / 65536 % 8 == i && third / 65536 % 10 == gone) {
-                return seed;
-            }
-        }
-    }
-
-    private static long next(long seed) {
-        return (seed * 1103515245L + 12345L) % 2147483648L;
-    }
-
     private static void driftByEachDeed() {
-        StrikePlan x = TowerTest.lightPair(0);
+        StrikePlan x = Towers.lightPair(0);
         x.keep(0);
         driftOnce(x, 0, 1, 9);
         DUE.is("0: days", x.told(0), 29);
@@ -342,73 +325,41 @@ public final class DeedsTest {
     /** From image 0, one time with these draws. */
     private static void driftOnce(StrikePlan x, int deed, int i, int gone) {
         x.goBack(0);
-        x.seed(seedFor(deed, i, gone));
-        DUE.is("drift(1) answers the floors", x.drift(1), x.told(1));
-    }
-
-    private static void driftIsUndoneByTimes() {
-        StrikePlan x = new StrikePlan();
-        x.seed(397);
-        String[] states = new String[21];
-        StrikePlan steps = new StrikePlan();
-        steps.seed(397);
-        for (int n = 0; n <= 20; n++) {
-            states[n] = floorsOf(steps);
-            steps.drift(1);
-        }
-        x.drift(20);
-        DUE.is("as many as times", x.told(13), 20);
-        for (int n = 19; n >= 0; n--) {
-            x.undo(1);
-            DUE.same("undone to " + n, floorsOf(x), states[n]);
-        }
-        DUE.is("no more", x.undo(1), NOT);
-    }
-
-    private static String floorsOf(StrikePlan x) {
-        StringBuilder text = new StringBuilder();
-        for (int what = 0; what <= 10; what++) {
-            text.append(x.told(what)).append(' ');
-        }
-        for (int i = 0; i < x.told(1); i++) {
-            for (int what = 0; what <= 10; what++) {
-                text.append(x.floor(i, what)).append(' ');
-            }
-        }
-        return text.toString();
+        int answer = Towers.driftOnce(x, deed, i, gone);
+        DUE.is("drift(1) answers the floors", answer, x.told(1));
     }
 
     private static void undo() {
         StrikePlan x = new StrikePlan();
         String[] states = new String[9];
-        states[0] = floorsOf(x);
+        states[0] = Due.towerOf(x);
         x.bound(1, 200);
-        states[1] = floorsOf(x);
+        states[1] = Due.towerOf(x);
         x.pour();
-        states[2] = floorsOf(x);
+        states[2] = Due.towerOf(x);
         x.days(10);
-        states[3] = floorsOf(x);
+        states[3] = Due.towerOf(x);
         x.slow(0, 2);
-        states[4] = floorsOf(x);
+        states[4] = Due.towerOf(x);
         x.strike(0);
-        states[5] = floorsOf(x);
+        states[5] = Due.towerOf(x);
         x.back(0);
-        states[6] = floorsOf(x);
+        states[6] = Due.towerOf(x);
         x.clear();
-        states[7] = floorsOf(x);
+        states[7] = Due.towerOf(x);
         DUE.is("seven deeds", x.told(13), 7);
         DUE.is("not eight", x.undo(8), NOT);
         DUE.is("undo(1)", x.undo(1), 10);
-        DUE.same("clear() undone", floorsOf(x), states[6]);
+        DUE.same("clear() undone", Due.towerOf(x), states[6]);
         DUE.is("undo(2)", x.undo(2), 10);
-        DUE.same("back(), strike() undone", floorsOf(x), states[4]);
+        DUE.same("back(), strike() undone", Due.towerOf(x), states[4]);
         DUE.is("four left", x.told(13), 4);
         DUE.is("not five", x.undo(5), NOT);
         x.days(3);
         DUE.is("undo(3)", x.undo(3), 0);
-        DUE.same("days(), slow(), days() undone", floorsOf(x), states[2]);
+        DUE.same("days(), slow(), days() undone", Due.towerOf(x), states[2]);
         DUE.is("undo(2)", x.undo(2), 0);
-        DUE.same("all undone", floorsOf(x), states[0]);
+        DUE.same("all undone", Due.towerOf(x), states[0]);
         int[] outside = {0, 21, -1, Integer.MIN_VALUE, Integer.MAX_VALUE};
         for (int n : outside) {
             DUE.is("undo(" + n + ")", x.undo(n), OUTSIDE);

@@ -1,13 +1,26 @@
+import java.util.function.Supplier;
+import java.util.function.ToIntFunction;
+
 /** Counts the answers that are not the ones that are due. */
 final class Due {
+    private String name = "";
     private int checked = 0;
     private int wrong = 0;
+
+    /** What is checked from now on belongs to this case. */
+    void begin(String caseName) {
+        name = caseName + ": ";
+    }
+
+    int checked() {
+        return checked;
+    }
 
     void is(String call, long got, long want) {
         checked++;
         if (got != want) {
             wrong++;
-            System.out.println(call + " answered " + got + ", due is " + want);
+            System.out.println(name + call + " answered " + got + ", due is " + want);
         }
     }
 
@@ -15,10 +28,45 @@ final class Due {
         is(what, so ? 1 : 0, 1);
     }
 
+    void same(String what, String got, String want) {
+        checked++;
+        if (!got.equals(want)) {
+            wrong++;
+            System.out.println(name + what + ": " + got + ", due is " + want);
+        }
+    }
+
+    /**
+     * The call is refused so, and all that can be seen of the object is as it was. Each refusal has an
+     * object of its own: looking at all of it takes some hundred of the 512 calls that it is good for.
+     */
+    void refuses(Supplier<StrikePlan> made, String call, ToIntFunction<StrikePlan> calling, int want) {
+        StrikePlan x = made.get();
+        String ahead = wholeOf(x);
+        is(call, calling.applyAsInt(x), want);
+        same("what is refused changes nothing: " + call, wholeOf(x), ahead);
+    }
+
     /** All numbers of told() that a deed can change, and of each floor: to see that nothing was changed. */
     static String stateOf(StrikePlan x) {
+        return numbersOf(x, 13);
+    }
+
+    /** The same without the book and without how many can be undone: section 1 of the document. */
+    static String towerOf(StrikePlan x) {
+        return numbersOf(x, 10);
+    }
+
+    /** The same with the seed, which only another seed tells. */
+    static String wholeOf(StrikePlan x) {
+        int seed = x.seed(0);
+        x.seed(seed);
+        return stateOf(x) + seed;
+    }
+
+    private static String numbersOf(StrikePlan x, int last) {
         StringBuilder text = new StringBuilder();
-        for (int what = 0; what <= 13; what++) {
+        for (int what = 0; what <= last; what++) {
             text.append(x.told(what)).append(' ');
         }
         for (int i = 0; i < x.told(1); i++) {
@@ -27,14 +75,6 @@ final class Due {
             }
         }
         return text.toString();
-    }
-
-    void same(String what, String got, String want) {
-        checked++;
-        if (!got.equals(want)) {
-            wrong++;
-            System.out.println(what + ": " + got + ", due is " + want);
-        }
     }
 
     void end() {

@@ -18,11 +18,12 @@ public final class RandomRunsTest {
         Random random = new Random(run);
         StrikePlan x = new StrikePlan();
         PlainModel model = new PlainModel();
-        if (run % 2 == 1) {
-            // Strong floors, else most runs stay low.
+        boolean strong = run % 2 == 1;
+        if (strong) {
+            // Else most runs stay low.
             compare(due, run, x, model, 10, 1, 100 + random.nextInt(301));
         }
-        for (int n = 0; n < CALLS; n++) {
+        for (int n = strong ? 1 : 0; n < CALLS; n++) {
             int call = CALLS_BY_LOT[random.nextInt(CALLS_BY_LOT.length)];
             compare(due, run, x, model, call, first(random, call), second(random, call));
         }

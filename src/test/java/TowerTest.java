@@ -39,22 +39,8 @@ public final class TowerTest {
         DUE.is("new: goBack(1)", x.goBack(1), StrikePlan.NOT);
     }
 
-    /** Two floors of weight 5, 20 and 10 days old, that hang together and bear 5 each by rule 0. */
-    static StrikePlan lightPair(int rule) {
-        StrikePlan x = new StrikePlan();
-        x.bound(0, 5);
-        x.bound(2, 1);
-        x.bound(3, rule);
-        x.pour();
-        x.days(10);
-        x.pour();
-        x.days(10);
-        x.strike(0);
-        return x;
-    }
-
     private static void toldOfTheTower() {
-        StrikePlan x = lightPair(0);
+        StrikePlan x = Towers.lightPair(0);
         int[] pair = {20, 2, 5, 60, 1, 0, 2, 0, 1, 2, 0, 0, NONE, 8};
         for (int what = 0; what < pair.length; what++) {
             DUE.is("pair: told(" + what + ")", x.told(what), pair[what]);
@@ -96,7 +82,7 @@ public final class TowerTest {
     }
 
     private static void floorOfAStack() {
-        StrikePlan x = lightPair(0);
+        StrikePlan x = Towers.lightPair(0);
         x.slow(1, 5);
         x.pour();
         // 5 among two old floors: 2 each, the one left over to the lowest.
@@ -124,7 +110,7 @@ public final class TowerTest {
     }
 
     private static void floorRefused() {
-        StrikePlan x = lightPair(0);
+        StrikePlan x = Towers.lightPair(0);
         int[] strange = {-1, 2, 8, 31, 32, Integer.MIN_VALUE, Integer.MAX_VALUE};
         for (int i : strange) {
             DUE.is("floor(" + i + ", 0)", x.floor(i, 0), UNKNOWN);
@@ -218,7 +204,7 @@ public final class TowerTest {
 
     private static void wouldShareByRules() {
         // Ages 20 and 10; by rule 1 the strengths are 60 and, slow, 30: 10 was shared as 7 and 3.
-        StrikePlan byAge = lightPair(2);
+        StrikePlan byAge = Towers.lightPair(2);
         byAge.pour();
         DUE.is("by age: 7 and 4", byAge.floor(0, 3), 1011);
         DUE.is("by age: 3 and 1", byAge.floor(1, 3), 1004);
@@ -301,7 +287,7 @@ public final class TowerTest {
     }
 
     private static void wouldRefused() {
-        StrikePlan x = lightPair(0);
+        StrikePlan x = Towers.lightPair(0);
         DUE.is("no props: would(0, 0)", x.would(0, 0), UNKNOWN);
         DUE.is("would(1, 1)", x.would(1, 1), 1005);
         int[] strange = {-1, 2, 8, 32, 33, Integer.MIN_VALUE, Integer.MAX_VALUE};
@@ -402,7 +388,7 @@ public final class TowerTest {
     }
 
     private static void askingChangesNothing() {
-        StrikePlan x = lightPair(1);
+        StrikePlan x = Towers.lightPair(1);
         x.pour();
         String ahead = Due.stateOf(x);
         x.cycle(1);
