@@ -66,7 +66,7 @@ final class TermsBoundaries {
         due.is("PROPS without 0 and 7", x.told(6), 126);
     }
 
-    /** "They are far below all that is counted": even a FORCE of the ground below 0 is no refusal. */
+    /** "They are far below all that is counted: -1000000001 and on". */
     static void terms_refusals_areFarBelow(Due due) {
         due.is("UNKNOWN", StrikePlan.UNKNOWN, -1000000001);
         due.is("OUTSIDE", StrikePlan.OUTSIDE, -1000000002);
